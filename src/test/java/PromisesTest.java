@@ -467,6 +467,10 @@ public final class PromisesTest {
         x = ofForm(2, 26, 7, 0, 0, 0, 0, 0, 0, 0, 27, 6, 26, 1, 1, 1, 1, 1, 1, 27);
         due("a row of 12", x.drop(26), 13);
         due("12 signs", x.rule(27, 0), 12);
+        x = ofForm(2, 27, 7, 0, 0, 0, 0, 0, 0, 0, 26, 7, 27, 1, 1, 1, 1, 1, 1, 1, 26);
+        due("a row of 13 of the least rule", x.drop(27), -5);
+        x = ofForm(2, 26, 7, 0, 0, 0, 0, 0, 0, 0, 85, 7, 26, 1, 1, 1, 1, 1, 1, 1, 85);
+        due("a row of 13 of the last rule", x.drop(26), -5);
         x = ofForm(2, 26, 2, 0, 1, 27, 3, 26, 2, 26, 1, 27);
         due("twice in a row", x.drop(26), 6);
         due("all of them", x.rule(27, 14), 1);
@@ -577,6 +581,9 @@ public final class PromisesTest {
         due("240", x.insert(240, 1), -4);
         due("the place first", x.insert(241, 1), -5);
         due("into nothing", new PairPacker().insert(0, 7), 1);
+        x = deep(60);
+        due("60 rows down", x.insert(1, 25), 62);
+        due("its sign", x.sign(1), 25);
     }
 
     // ---- what there is
@@ -901,20 +908,28 @@ public final class PromisesTest {
         // ac is the best one, but behind it stands no other that gains
         x = of("acbacbacbacb");
         due("one behind the other", x.best(2), 8);
-        // a number is free for one of the two alone
-        int[] bytes = new int[2 + 59 * 4 + 16];
-        bytes[0] = 59;
-        for (int i = 0; i < 59; i++) {
+        due("one of them", x.best(1), 10);
+        x = nearlyFull(59);
+        due("one number, one replaced", x.best(1), 132);
+        due("one number, two", x.best(2), 132);
+        x = nearlyFull(58);
+        due("two numbers, one replaced", x.best(1), 130);
+        due("two numbers, two", x.best(2), 128);
+    }
+
+    /** So many rules of aa, and a sequence of four times bc and four times de. */
+    private static PairPacker nearlyFull(int rules) {
+        int[] bytes = new int[2 + 4 * rules + 16];
+        bytes[0] = rules;
+        for (int i = 0; i < rules; i++) {
             bytes[1 + 4 * i] = 26 + i;
             bytes[2 + 4 * i] = 2;
         }
-        bytes[237] = 16;
+        bytes[1 + 4 * rules] = 16;
         for (int i = 0; i < 16; i++) {
-            bytes[238 + i] = i < 8 ? 1 + i % 2 : 3 + i % 2;
+            bytes[2 + 4 * rules + i] = i < 8 ? 1 + i % 2 : 3 + i % 2;
         }
-        x = ofForm(bytes);
-        due("one", x.best(1), 132);
-        due("the last number", x.best(2), 132);
+        return ofForm(bytes);
     }
 
     private static void bits() {
@@ -958,6 +973,35 @@ public final class PromisesTest {
         due("then 60", x.form(5), 60);
         due("then 26", x.form(9), 26);
         due("nothing", new PairPacker().form(1), 0);
+        longForm();
+    }
+
+    /** 59 rules of 12 signs each, one more, and 240 signs in the sequence. */
+    private static void longForm() {
+        int[] bytes = new int[2 + 8 + 59 * 4];
+        int[] head = {60, 26, 6, 0, 1, 2, 3, 4, 5};
+        System.arraycopy(head, 0, bytes, 0, head.length);
+        for (int i = 0; i < 59; i++) {
+            bytes[9 + 4 * i] = 27 + i;
+            bytes[10 + 4 * i] = 2;
+            bytes[11 + 4 * i] = 26;
+            bytes[12 + 4 * i] = 26;
+        }
+        PairPacker x = ofForm(bytes);
+        due("59 long rows", x.drop(26), 59 * 12);
+        x.insert(0, 1);
+        x.insert(0, 0);
+        due("the least number again", x.replace(0, 1), 26);
+        for (int i = 2; i < 240; i++) {
+            x.insert(0, i % 26);
+        }
+        due("all rules", x.count(2), 60);
+        due("signs", x.count(1), 239);
+        due("a long form", x.count(9), 2 + 59 * 14 + 4 + 239);
+        due("its last byte", x.form(1070), 26);
+        due("not so many", x.form(1071), -1);
+        due("its size", x.count(3), 59 * 12 + 2 + 239);
+        due("size by letters", x.bits(0), Float.floatToIntBits(949f / 240f));
     }
 
     private static void code() {

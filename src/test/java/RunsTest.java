@@ -108,10 +108,21 @@ public final class RunsTest {
         return oddOr(dice(letters));
     }
 
+    private int someRule() {
+        int from = 26 + dice(60);
+        for (int i = 0; i < 60; i++) {
+            int sign = 26 + (from + i) % 60;
+            if (model.rule(sign, 0) > 0) {
+                return sign;
+            }
+        }
+        return from;
+    }
+
     private int sign() {
         int size = model.count(1);
         if (dice(3) == 0 || size == 0) {
-            return oddOr(dice(2) == 0 ? dice(letters) : 26 + dice(model.count(2) + 1));
+            return oddOr(dice(2) == 0 ? dice(letters) : someRule());
         }
         return oddOr(model.sign(dice(size)));
     }
@@ -191,18 +202,20 @@ public final class RunsTest {
             }
             known.add(sign);
         }
-        int length = dice(5) == 0 ? dice(200) : dice(20);
+        int mostSigns = dice(5) == 0 ? 200 : 20;
+        int length = dice(Math.max(1, Math.min(mostSigns, 260 - bytes.size())));
+        int few = dice(known.size());
         bytes.add(length);
         for (int k = 0; k < length; k++) {
-            bytes.add(known.get(dice(known.size())));
+            bytes.add(known.get(dice(3) == 0 ? dice(known.size()) : dice(few + 1)));
         }
         return bytes;
     }
 
     private void newForm() {
         List<Integer> bytes = dice(3) == 0 ? model.formNow() : someForm();
-        if (bytes.size() > 240) {
-            bytes = new ArrayList<>(bytes.subList(0, 240));
+        if (bytes.size() > 260) {
+            bytes = new ArrayList<>(bytes.subList(0, 260));
         }
         if (dice(4) == 0) {
             bytes.set(dice(bytes.size()), dice(3) == 0 ? dice(256) : dice(90));
@@ -220,7 +233,7 @@ public final class RunsTest {
             case 5: case 6: both("step"); break;
             case 7: both("pack"); break;
             case 8: case 9: replaceOne(); break;
-            case 10: both("drop", oddOr(26 + dice(model.count(2) + 1))); break;
+            case 10: both("drop", oddOr(someRule())); break;
             case 11: both("trim"); break;
             case 12: both("unpack"); break;
             case 13: case 14: both("put", place(), letter()); break;
