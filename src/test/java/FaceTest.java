@@ -128,13 +128,13 @@ public final class FaceTest {
         }
     }
 
-    /** All that a run needs is made with the object: 512 calls make hardly a byte more. */
+    /** All that a run needs is made with the object: the calls of a run make hardly a byte more. */
     private static void room() {
         com.sun.management.ThreadMXBean bean =
             (com.sun.management.ThreadMXBean) ManagementFactory.getThreadMXBean();
         long self = Thread.currentThread().getId();
+        calls(new PairPacker());
         PairPacker x = new PairPacker();
-        calls(x);
         long before = bean.getThreadAllocatedBytes(self);
         calls(x);
         long made = bean.getThreadAllocatedBytes(self) - before;

@@ -1,9 +1,5 @@
 /** Each promise of the document by hand: ordinary calls, the edges that it names, wrong calls. */
-public final class PromisesTest {
-    private static int wrong = 0;
-    private static int asked = 0;
-    private static int promise = 0;
-
+public final class PromisesTest extends Bench {
     public static void main(String[] args) {
         newObject();
         feed();
@@ -48,113 +44,16 @@ public final class PromisesTest {
         image();
         restore();
         count();
-        System.out.println(asked + " answers asked for, " + wrong + " of them not as due");
-        if (wrong != 0) {
+        System.out.println(asked() + " answers asked for, " + wrong() + " of them not as due");
+        if (wrong() != 0) {
             System.exit(1);
         }
-    }
-
-    // ---- how it is tested
-
-    private static void due(String what, int got, int want) {
-        asked++;
-        if (got != want) {
-            wrong++;
-            System.out.println("promise " + promise + ": " + what + ": " + got + ", due is " + want);
-        }
-    }
-
-    private static void feedBytes(PairPacker x, int... bytes) {
-        for (int at = 0; at < bytes.length; at += 20) {
-            int[] five = new int[5];
-            for (int i = 0; i < 20; i++) {
-                five[i / 4] = five[i / 4] << 8 | (at + i < bytes.length ? bytes[at + i] : 0);
-            }
-            x.feed(five[0], five[1], five[2], five[3], five[4]);
-        }
-    }
-
-    private static void feedText(PairPacker x, String letters) {
-        feedBytes(x, letters.chars().toArray());
-    }
-
-    private static PairPacker of(String letters) {
-        PairPacker x = new PairPacker();
-        feedText(x, letters);
-        x.text(letters.length());
-        return x;
-    }
-
-    private static PairPacker ofForm(int... bytes) {
-        PairPacker x = new PairPacker();
-        feedBytes(x, bytes);
-        due("the form is taken", x.load(bytes.length) >= 0 ? 1 : 0, 1);
-        return x;
-    }
-
-    private static void seek(PairPacker x, String phrase) {
-        feedText(x, phrase);
-        x.phrase(phrase.length());
-    }
-
-    private static String sequence(PairPacker x) {
-        StringBuilder told = new StringBuilder();
-        for (int i = 0; x.sign(i) >= 0; i++) {
-            told.append(i == 0 ? "" : " ").append(x.sign(i));
-        }
-        return told.toString();
-    }
-
-    private static String letters(PairPacker x) {
-        StringBuilder told = new StringBuilder();
-        for (int i = 0; x.at(i) >= 0; i++) {
-            told.append((char) ('a' + x.at(i)));
-        }
-        return told.toString();
-    }
-
-    private static void dueText(String what, String got, String want) {
-        due(what + " '" + got + "', due is '" + want + "', alike", got.equals(want) ? 1 : 0, 1);
-    }
-
-    /** A form whose 60 rules are all taken: 26 is "aa", each other one "ab". */
-    private static PairPacker full(int... sequence) {
-        int[] bytes = new int[2 + 60 * 4 + sequence.length];
-        int at = 0;
-        bytes[at++] = 60;
-        for (int sign = 26; sign <= 85; sign++) {
-            bytes[at++] = sign;
-            bytes[at++] = 2;
-            bytes[at++] = 0;
-            bytes[at++] = sign == 26 ? 0 : 1;
-        }
-        bytes[at++] = sequence.length;
-        for (int part : sequence) {
-            bytes[at++] = part;
-        }
-        return ofForm(bytes);
-    }
-
-    /** Rules 26 to 26 + n - 1, each the one ahead and an a; a sequence of the last one. */
-    private static PairPacker deep(int n) {
-        int[] bytes = new int[3 + 4 * n];
-        int at = 0;
-        bytes[at++] = n;
-        for (int sign = 26; sign < 26 + n; sign++) {
-            bytes[at++] = sign;
-            bytes[at++] = 2;
-            bytes[at++] = sign == 26 ? 0 : sign - 1;
-            bytes[at++] = 0;
-        }
-        bytes[at++] = 1;
-        bytes[at] = 25 + n;
-        return ofForm(bytes);
     }
 
     // ---- texts
 
     private static void newObject() {
-        promise = 1;
+        begin("promise 1");
         PairPacker x = new PairPacker();
         due("letters", x.count(0), 0);
         due("rules", x.count(2), 0);
@@ -167,7 +66,7 @@ public final class PromisesTest {
     }
 
     private static void feed() {
-        promise = 2;
+        begin("promise 2");
         PairPacker x = new PairPacker();
         due("twenty bytes", x.feed(0x61626364, 0x65666768, 0x696a6b6c, 0x6d6e6f70, 0x71727374), 20);
         due("on the tape", x.count(5), 20);
@@ -189,7 +88,7 @@ public final class PromisesTest {
     }
 
     private static void text() {
-        promise = 3;
+        begin("promise 3");
         PairPacker x = of("abab");
         x.step();
         feedText(x, "zyxzyx");
@@ -222,7 +121,7 @@ public final class PromisesTest {
     }
 
     private static void phrase() {
-        promise = 4;
+        begin("promise 4");
         PairPacker x = of("aaabaaa");
         feedText(x, "aab");
         due("two letters", x.phrase(2), 4);
@@ -253,7 +152,7 @@ public final class PromisesTest {
     }
 
     private static void load() {
-        promise = 5;
+        begin("promise 5");
         PairPacker x = new PairPacker();
         feedBytes(x, 2, 85, 3, 0, 1, 2, 26, 2, 85, 85, 3, 26, 25, 85);
         due("a form", x.load(14), 10);
@@ -278,18 +177,6 @@ public final class PromisesTest {
         due("240 signs", ofForm(long240).count(1), 240);
         due("rules that aren't used", ofForm(1, 26, 2, 0, 0, 0).count(2), 1);
         due("a row of 12", ofForm(1, 40, 12, 0, 1, 2, 3, 4, 5, 6, 7, 8, 9, 10, 11, 1, 40).at(11), 11);
-    }
-
-    /** 26 has 12 letters, 27 has 12 of those and so 144; the sequence 96 more, and so many a's. */
-    private static int[] big(int more) {
-        int[] bytes = new int[39 + more];
-        int[] head = {2, 26, 12, 0, 0, 0, 0, 0, 0, 0, 0, 0, 0, 0, 0,
-            27, 12, 26, 26, 26, 26, 26, 26, 26, 26, 26, 26, 26, 26, 9 + more, 27};
-        System.arraycopy(head, 0, bytes, 0, head.length);
-        for (int i = 31; i < 39; i++) {
-            bytes[i] = 26;
-        }
-        return bytes;
     }
 
     private static void loadFaults() {
@@ -338,7 +225,7 @@ public final class PromisesTest {
     }
 
     private static void fault() {
-        promise = 6;
+        begin("promise 6");
         PairPacker x = new PairPacker();
         feedText(x, "ab-c");
         x.text(4);
@@ -377,7 +264,7 @@ public final class PromisesTest {
     // ---- packed
 
     private static void step() {
-        promise = 7;
+        begin("promise 7");
         PairPacker x = of("bcbcabab");
         due("the least of like ones", x.step(), 26);
         dueText("replaced", sequence(x), "1 2 1 2 26 26");
@@ -400,7 +287,7 @@ public final class PromisesTest {
     }
 
     private static void pack() {
-        promise = 8;
+        begin("promise 8");
         PairPacker x = of("abababab");
         due("twice", x.pack(), 2);
         dueText("packed", sequence(x), "27 27");
@@ -418,7 +305,7 @@ public final class PromisesTest {
     }
 
     private static void replace() {
-        promise = 9;
+        begin("promise 9");
         PairPacker x = of("abcabc");
         due("a pair", x.replace(1, 2), 26);
         dueText("replaced", sequence(x), "0 26 0 26");
@@ -444,7 +331,7 @@ public final class PromisesTest {
     }
 
     private static void drop() {
-        promise = 10;
+        begin("promise 10");
         PairPacker x = of("abababab");
         x.pack();
         due("a rule in a row", x.drop(26), 6);
@@ -478,7 +365,7 @@ public final class PromisesTest {
     }
 
     private static void trim() {
-        promise = 11;
+        begin("promise 11");
         PairPacker x = of("abcabc");
         x.step();
         x.step();
@@ -502,7 +389,7 @@ public final class PromisesTest {
     }
 
     private static void unpack() {
-        promise = 12;
+        begin("promise 12");
         PairPacker x = of("abcabcabc");
         x.pack();
         due("all letters", x.unpack(), 9);
@@ -515,7 +402,7 @@ public final class PromisesTest {
     }
 
     private static void put() {
-        promise = 13;
+        begin("promise 13");
         PairPacker x = of("abababab");
         x.pack();
         due("what it was", x.put(2, 25), 0);
@@ -540,7 +427,7 @@ public final class PromisesTest {
     }
 
     private static void cut() {
-        promise = 14;
+        begin("promise 14");
         PairPacker x = of("abababab");
         x.pack();
         due("letters left", x.cut(1, 2), 6);
@@ -562,7 +449,7 @@ public final class PromisesTest {
     }
 
     private static void insert() {
-        promise = 15;
+        begin("promise 15");
         PairPacker x = of("abababab");
         x.pack();
         due("within", x.insert(3, 25), 9);
@@ -589,7 +476,7 @@ public final class PromisesTest {
     // ---- what there is
 
     private static void sign() {
-        promise = 16;
+        begin("promise 16");
         PairPacker x = of("zaza");
         due("the first", x.sign(0), 25);
         x.step();
@@ -600,7 +487,7 @@ public final class PromisesTest {
     }
 
     private static void rule() {
-        promise = 17;
+        begin("promise 17");
         PairPacker x = of("aabaabaabaab");
         x.step();
         x.step();
@@ -644,7 +531,7 @@ public final class PromisesTest {
     }
 
     private static void word() {
-        promise = 18;
+        begin("promise 18");
         PairPacker x = of("abcabc");
         x.pack();
         due("of a rule", x.word(27, 2), 2);
@@ -659,7 +546,7 @@ public final class PromisesTest {
     }
 
     private static void pairs() {
-        promise = 19;
+        begin("promise 19");
         PairPacker x = of("aaabaaaab");
         due("runs", x.pairs(0, 0), 3);
         due("unlike ones", x.pairs(0, 1), 2);
@@ -674,7 +561,7 @@ public final class PromisesTest {
     }
 
     private static void pick() {
-        promise = 20;
+        begin("promise 20");
         PairPacker x = of("babazczcbacacada");
         due("the most often", x.pick(0), 100);
         due("of like ones the least first", x.pick(1), 2);
@@ -692,7 +579,7 @@ public final class PromisesTest {
     // ---- asked where it is packed
 
     private static void at() {
-        promise = 21;
+        begin("promise 21");
         PairPacker x = of("abcdabcd");
         x.pack();
         due("a place", x.at(6), 2);
@@ -702,7 +589,7 @@ public final class PromisesTest {
     }
 
     private static void within() {
-        promise = 22;
+        begin("promise 22");
         PairPacker x = of("abababab");
         x.pack();
         x.insert(4, 25);
@@ -719,7 +606,7 @@ public final class PromisesTest {
     }
 
     private static void way() {
-        promise = 23;
+        begin("promise 23");
         PairPacker x = of("abababab");
         x.pack();
         due("of the sequence", x.way(5, 0), 27);
@@ -737,7 +624,7 @@ public final class PromisesTest {
     }
 
     private static void ahead() {
-        promise = 24;
+        begin("promise 24");
         PairPacker x = of("abcabcab");
         x.pack();
         due("ahead of 0", x.ahead(0, 0), 0);
@@ -751,7 +638,7 @@ public final class PromisesTest {
     }
 
     private static void where() {
-        promise = 25;
+        begin("promise 25");
         PairPacker x = of("abcabcab");
         x.pack();
         due("the first", x.where(1, 0), 1);
@@ -764,7 +651,7 @@ public final class PromisesTest {
     }
 
     private static void common() {
-        promise = 26;
+        begin("promise 26");
         PairPacker x = of("abcabdabc");
         x.pack();
         due("two", x.common(0, 3), 2);
@@ -778,7 +665,7 @@ public final class PromisesTest {
     }
 
     private static void compare() {
-        promise = 27;
+        begin("promise 27");
         PairPacker x = of("abcabdab");
         x.pack();
         due("the first", x.compare(0, 3), 1);
@@ -791,7 +678,7 @@ public final class PromisesTest {
     }
 
     private static void print() {
-        promise = 28;
+        begin("promise 28");
         PairPacker x = of("abcabc");
         x.pack();
         due("none", x.print(6, 0), 0);
@@ -807,7 +694,7 @@ public final class PromisesTest {
     }
 
     private static void repeat() {
-        promise = 29;
+        begin("promise 29");
         due("overlapping", of("aaaaa").repeat(), 4);
         due("none", of("abc").repeat(), 0);
         due("nothing", new PairPacker().repeat(), 0);
@@ -821,7 +708,7 @@ public final class PromisesTest {
     }
 
     private static void repeatAt() {
-        promise = 30;
+        begin("promise 30");
         due("none", of("abc").repeatAt(), -1);
         due("overlapping", of("baaaa").repeatAt(), 1);
         PairPacker x = of("xcdyabzabwcd");
@@ -833,7 +720,7 @@ public final class PromisesTest {
     // ---- phrases
 
     private static void hit() {
-        promise = 31;
+        begin("promise 31");
         PairPacker x = of("aaabaa");
         due("no phrase", x.hit(0), -5);
         due("below 0, first", x.hit(-1), -3);
@@ -848,7 +735,7 @@ public final class PromisesTest {
     }
 
     private static void hits() {
-        promise = 32;
+        begin("promise 32");
         PairPacker x = of("abababab");
         due("no phrase", x.hits(1), -5);
         due("no letters of it", x.hits(2), 0);
@@ -872,7 +759,7 @@ public final class PromisesTest {
     // ---- how well
 
     private static void gain() {
-        promise = 33;
+        begin("promise 33");
         PairPacker x = of("abababc");
         due("a new rule", x.gain(0, 1), 1);
         due("below 0", x.gain(1, 2), -1);
@@ -890,7 +777,7 @@ public final class PromisesTest {
     }
 
     private static void best() {
-        promise = 34;
+        begin("promise 34");
         PairPacker x = of("abababab");
         due("none", x.best(0), 8);
         due("one", x.best(1), 6);
@@ -933,7 +820,7 @@ public final class PromisesTest {
     }
 
     private static void bits() {
-        promise = 35;
+        begin("promise 35");
         PairPacker x = of("abababab");
         x.pack();
         due("size by letters", x.bits(0), Float.floatToIntBits(6f / 8f));
@@ -959,7 +846,7 @@ public final class PromisesTest {
     }
 
     private static void form() {
-        promise = 36;
+        begin("promise 36");
         int[] given = {3, 50, 2, 0, 1, 30, 2, 50, 50, 26, 3, 0, 0, 30, 2, 26, 5};
         PairPacker x = ofForm(given);
         for (int i = 0; i < given.length; i++) {
@@ -1005,7 +892,7 @@ public final class PromisesTest {
     }
 
     private static void code() {
-        promise = 37;
+        begin("promise 37");
         PairPacker x = of("aaaabbc");
         due("length", x.code(0, 0), 1);
         due("longer", x.code(1, 0), 2);
@@ -1032,7 +919,7 @@ public final class PromisesTest {
     }
 
     private static void coded() {
-        promise = 38;
+        begin("promise 38");
         PairPacker x = of("zzzzbbac");
         due("the shortest", x.coded(0), 25);
         due("then", x.coded(1), 1);
@@ -1046,7 +933,7 @@ public final class PromisesTest {
     // ---- back
 
     private static void undo() {
-        promise = 39;
+        begin("promise 39");
         PairPacker x = of("abababab");
         x.step();
         x.step();
@@ -1085,7 +972,7 @@ public final class PromisesTest {
     }
 
     private static void image() {
-        promise = 40;
+        begin("promise 40");
         PairPacker x = of("abab");
         due("made", x.image(0), 0);
         due("the other", x.image(1), 0);
@@ -1096,7 +983,7 @@ public final class PromisesTest {
     }
 
     private static void restore() {
-        promise = 41;
+        begin("promise 41");
         PairPacker x = of("abab");
         x.image(1);
         x.step();
@@ -1121,7 +1008,7 @@ public final class PromisesTest {
     }
 
     private static void count() {
-        promise = 42;
+        begin("promise 42");
         PairPacker x = of("abababababc");
         x.pack();
         x.put(0, 0);

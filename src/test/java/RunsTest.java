@@ -5,8 +5,9 @@ import java.util.List;
 
 /** Long runs of calls, the same on the program and on the Model: each answer must be the same. */
 public final class RunsTest {
-    private static final int RUNS = 400;
-    private static final int ROUNDS = 60;
+    private static final int RUNS = 2500;
+    // what an object answers behind so many calls, the document leaves free
+    private static final int CALLS = 512;
     private static final int[] ODD = {
         Integer.MIN_VALUE, Integer.MIN_VALUE + 1, -1000000, -2, -1, 0, 1, 2, 25, 26, 27, 60, 85, 86,
         87, 239, 240, 241, 255, 260, 1000000, Integer.MAX_VALUE - 1, Integer.MAX_VALUE};
@@ -41,16 +42,20 @@ public final class RunsTest {
 
     private int play() {
         letters = 1 + dice(5);
-        for (int i = 0; i < ROUNDS && wrong == 0; i++) {
+        for (int i = 0; i < CALLS && goesOn(); i++) {
             change();
-            for (int k = 0; k < 12 && wrong == 0; k++) {
+            for (int k = dice(10); k > 0 && goesOn(); k--) {
                 ask();
             }
-            if (i % 5 == 0 && wrong == 0) {
-                askAll();
+            if (dice(8) == 0) {
+                look();
             }
         }
         return wrong;
+    }
+
+    private boolean goesOn() {
+        return wrong == 0 && told.size() < CALLS;
     }
 
     private int dice(int sides) {
@@ -58,9 +63,9 @@ public final class RunsTest {
         return (int) ((seed >>> 33) % sides);
     }
 
-    private int both(String name, int... args) {
-        if (wrong > 0) {
-            return 0;
+    private void both(String name, int... args) {
+        if (!goesOn()) {
+            return;
         }
         String call = name + Arrays.toString(args);
         told.add(call);
@@ -72,7 +77,7 @@ public final class RunsTest {
         } catch (ReflectiveOperationException e) {
             System.out.println("run " + run + ": " + call + " threw " + e.getCause());
             wrong++;
-            return 0;
+            return;
         }
         if (got != due) {
             wrong++;
@@ -80,7 +85,6 @@ public final class RunsTest {
                 told.size()));
             System.out.println("run " + run + ": " + call + " answered " + got + ", due is " + due);
         }
-        return due;
     }
 
     private static Method methodOf(Class<?> kind, String name, int n) throws NoSuchMethodException {
@@ -279,32 +283,29 @@ public final class RunsTest {
         }
     }
 
-    private void askAll() {
-        for (int i = 0; i <= 11; i++) {
+    /** A look at much of what there is: all counts, and a stretch of each row. */
+    private void look() {
+        for (int i = 0; i <= 10; i++) {
             both("count", i);
         }
         for (int i = 0; i < 3; i++) {
             both("bits", i);
             both("hits", i);
         }
-        for (int i = 0; i <= model.count(9); i++) {
+        int from = dice(model.count(9));
+        for (int i = from; i < from + 15; i++) {
             both("form", i);
         }
-        for (int i = 0; i <= model.count(1); i++) {
+        from = dice(model.count(1) + 1);
+        for (int i = from; i < from + 8; i++) {
             both("sign", i);
-            both("coded", i);
+        }
+        for (int i = 0; i < 5; i++) {
             both("pick", i);
-        }
-        for (int sign = 0; sign < 86; sign++) {
+            both("coded", i);
+            int sign = sign();
             both("code", sign, 1);
-            for (int what = 0; what < 6; what++) {
-                both("rule", sign, what);
-            }
-        }
-        for (int place = 0; place < model.count(0); place += 1 + dice(4)) {
-            both("at", place);
-            both("within", place, dice(3));
-            both("way", place, dice(4));
+            both("rule", sign, dice(6));
         }
         both("repeatAt");
         both("best", model.count(1) > 40 ? 1 : 2);
