@@ -15,6 +15,11 @@ final class AskedCases extends Bench {
         due("the first", around().at(0), 0);
         due("the last", around().at(8), 1);
         due("the last of 240", ofForm(big(0)).at(239), 0);
+        due("asked first of a text", of("abcd").at(2), 2);
+        PairPacker x = around();
+        x.at(0);
+        x.put(0, 9);
+        due("behind a change", x.at(0), 9);
     }
 
     @Says("NONE: not so many; -3: it is below 0.")
@@ -40,6 +45,7 @@ final class AskedCases extends Bench {
         for (int place = 0; place < 9; place++) {
             due("place " + place, around().within(place, 0), want[place]);
         }
+        due("asked first of a text", of("abcd").within(3, 0), 3);
     }
 
     @Says("1: where that one's WORD begins")
@@ -63,6 +69,20 @@ final class AskedCases extends Bench {
         due("one of them", x.within(2, 2), 1);
         due("sixty", deep(60).within(0, 2), 60);
         due("one of sixty", deep(60).within(60, 2), 1);
+    }
+
+    @Says("Of a place: what 0: which SIGN of THE SEQUENCE it lies in (i)")
+    static void promise22_within_behindAChange() {
+        PairPacker x = around();
+        due("depth ahead", x.within(0, 2), 2);
+        x.insert(0, 3);
+        due("the sign behind it", x.within(5, 0), 2);
+        due("its begin", x.within(5, 1), 5);
+        due("its depth", x.within(5, 2), 0);
+        due("the begin of the first rule", x.within(4, 1), 1);
+        due("the depth of the first letter", x.within(0, 2), 0);
+        x.cut(0, 6);
+        due("the begin of what is left", x.within(3, 1), 0);
     }
 
     @Says("NONE: there is no such place")
@@ -98,10 +118,23 @@ final class AskedCases extends Bench {
     @Says({"The k-th SIGN (0: that of THE SEQUENCE) on the way down to the LETTER at a place",
         "the LETTER itself the last one."})
     static void promise23_way_down() {
-        due("of the sequence", around().way(6, 0), 27);
-        due("of its row", around().way(6, 1), 26);
-        due("the letter", around().way(6, 2), 1);
-        due("the letter alone", around().way(4, 0), 25);
+        String text = "ababzabab";
+        for (int place = 0; place < 9; place++) {
+            boolean alone = place == 4;
+            due("of the sequence at " + place, around().way(place, 0), alone ? 25 : 27);
+            due("of its row at " + place, around().way(place, 1), alone ? NONE : 26);
+            due("the letter at " + place, around().way(place, 2),
+                alone ? NONE : text.charAt(place) - 'a');
+        }
+        due("asked first of a text", of("abcd").way(3, 0), 3);
+        PairPacker x = ofForm(3, 26, 2, 0, 1, 27, 3, 2, 26, 3, 28, 2, 27, 4, 3, 25, 28, 28);
+        int[][] ways = {{25}, {28, 27, 2}, {28, 27, 26, 0}, {28, 27, 26, 1}, {28, 27, 3}, {28, 4}};
+        for (int place = 0; place < ways.length; place++) {
+            for (int k = 0; k < ways[place].length; k++) {
+                due("sign " + k + " of the way to " + place, x.way(place, k), ways[place][k]);
+            }
+            due("behind the letter " + place, x.way(place, ways[place].length), NONE);
+        }
         due("sixty down", deep(60).way(0, 60), 0);
         due("59 down", deep(60).way(0, 59), 26);
         due("one down", deep(60).way(60, 1), 0);
@@ -181,6 +214,7 @@ final class AskedCases extends Bench {
         due("the last b", around().where(1, 3), 8);
         due("z", around().where(25, 0), 4);
         due("the last of 240", ofForm(big(0)).where(0, 239), 239);
+        due("asked first of a text", of("abcd").where(3, 0), 3);
     }
 
     @Says("NONE: not so many; -2; -3: k is below 0.")
@@ -365,6 +399,18 @@ final class AskedCases extends Bench {
         due("240", of("a".repeat(240)).repeat(), 239);
     }
 
+    @Says("The length of the longest word of LETTERS that stands at two places")
+    static void promise29_repeat_behindAChange() {
+        PairPacker x = of("aaaaaaaa");
+        due("seven", x.repeat(), 7);
+        text(x, "aba");
+        due("one", x.repeat(), 1);
+        x.put(2, 2);
+        due("none", x.repeat(), 0);
+        x.undo(2);
+        due("seven again", x.repeat(), 7);
+    }
+
     @Says("0: none).")
     static void promise29_repeat_none() {
         due("all unlike", of("abcdefghijklmnopqrstuvwxyz").repeat(), 0);
@@ -383,6 +429,18 @@ final class AskedCases extends Bench {
         due("they overlap", of("baaaa").repeatAt(), 1);
         due("over signs", ofForm(1, 26, 2, 0, 1, 4, 25, 26, 2, 26).repeatAt(), 1);
         due("the longest, not the first", of("axaxybcdzbcd").repeatAt(), 5);
+    }
+
+    @Says("The least place at which a word of that length begins that stands at another place, too.")
+    static void promise30_repeatAt_behindAChange() {
+        PairPacker x = of("zaaaaaaa");
+        due("of many", x.repeatAt(), 1);
+        text(x, "yzaba");
+        due("of one", x.repeatAt(), 2);
+        x.put(2, 2);
+        due("none", x.repeatAt(), NONE);
+        x.undo(2);
+        due("of many again", x.repeatAt(), 1);
     }
 
     @Says("NONE: it is 0.")

@@ -309,6 +309,15 @@ final class BackCases extends Bench {
         dueText("its rule", row(x, 26), "0 1");
     }
 
+    @Says("All that is in an IMAGE is as it was: 0.")
+    static void promise41_restore_anUndoLeavesImages() {
+        PairPacker x = packed("abababab");
+        x.image(1);
+        due("all that can be", x.undo(2), 0);
+        due("the image", x.restore(1), 0);
+        dueText("is as it was", sequence(x), "27 27");
+    }
+
     @Says("nothing can be UNDONE behind.")
     static void promise41_restore_nothingCanBeUndone() {
         PairPacker x = of("abab");

@@ -249,6 +249,26 @@ final class PackedCases extends Bench {
         dueText("the text", letters(x), "ababcababdd");
     }
 
+    @Says("its ROW stands wherever its SIGN stood (THE SEQUENCE, ROWS of others);")
+    static void promise10_drop_inRowsOfLesserAndGreaterSigns() {
+        PairPacker x = ofForm(3, 50, 2, 0, 1, 26, 2, 50, 2, 85, 3, 3, 50, 50, 2, 26, 85);
+        due("size", x.drop(50), 10);
+        dueText("in the least one", row(x, 26), "0 1 2");
+        dueText("in the greatest one", row(x, 85), "3 0 1 0 1");
+        dueText("the sequence", sequence(x), "26 85");
+    }
+
+    @Says("its ROW stands wherever its SIGN stood (THE SEQUENCE, ROWS of others);")
+    static void promise10_drop_askedAheadAndBehind() {
+        PairPacker x = packed("abababab");
+        due("depth ahead", x.within(1, 2), 2);
+        x.drop(26);
+        due("depth behind", x.within(1, 2), 1);
+        due("depth of the rule", x.rule(27, 2), 1);
+        x.drop(27);
+        due("no depth", x.within(1, 2), 0);
+    }
+
     @Says("A RULE is DROPPED: SIZE then.")
     static void promise10_drop_oneThatIsNotUsed() {
         PairPacker x = ofForm(1, 26, 3, 0, 1, 2, 2, 4, 5);

@@ -22,6 +22,8 @@ final class PhraseCases extends Bench {
         due("the second", x.hit(1), 1);
         due("the third", x.hit(2), 2);
         due("no more", x.hit(3), NONE);
+        text(x, "baa");
+        due("asked first of another text", x.hit(0), 1);
     }
 
     @Says({"NONE: not so many;", "HITS are places of THE TEXT at which it begins"})
@@ -92,6 +94,8 @@ final class PhraseCases extends Bench {
         seek(x, "abab");
         due("from begin to end of a word", x.hits(0), 4);
         due("across", x.hits(1), 2);
+        text(x, "zabab");
+        due("asked first of another text", x.hits(1), 1);
     }
 
     @Says("CROSSING ones (1)")

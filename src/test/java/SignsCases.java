@@ -47,6 +47,7 @@ final class SignsCases extends Bench {
         due("two rows", x.rule(27, 1), 4);
         due("one row", x.rule(26, 1), 2);
         due("a letter", x.rule(25, 1), 1);
+        due("a letter of a new object", new PairPacker().rule(0, 1), 1);
         due("sixty rows", deep(60).rule(85, 1), 61);
         due("240", ofForm(3, 26, 12, 0, 0, 0, 0, 0, 0, 0, 0, 0, 0, 0, 0,
             27, 12, 26, 26, 26, 26, 26, 26, 26, 26, 26, 26, 26, 26,
@@ -144,6 +145,7 @@ final class SignsCases extends Bench {
             due("letter " + i, x.word(28, i), want[i]);
         }
         due("of a letter", x.word(25, 0), 25);
+        due("of a letter of a new object", new PairPacker().word(25, 0), 25);
         due("sixty rows down", deep(60).word(85, 0), 0);
         due("the last of those", deep(60).word(85, 60), 0);
     }
@@ -239,6 +241,9 @@ final class SignsCases extends Bench {
         PairPacker x = of("abab");
         due("ab", x.pick(0), 1);
         due("ba comes once", x.pick(1), NONE);
+        for (int i = 1; i < 12; i++) {
+            due("one pick of many pairs, " + i, of("ababcdefghi").pick(i), NONE);
+        }
         due("far off", x.pick(MAX), NONE);
         due("three of a kind count once", of("aaa").pick(0), NONE);
         due("of none", new PairPacker().pick(0), NONE);

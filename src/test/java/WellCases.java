@@ -114,6 +114,18 @@ final class WellCases extends Bench {
         due("the number, then the rule", alike(59, 25, 25, andOneRuled).best(2), 118 + 7);
     }
 
+    @Says("each only if there is a number free or a RULE of it)")
+    static void promise34_best_behindAChange() {
+        PairPacker x = ofForm(1, 26, 2, 0, 1, 4, 0, 1, 0, 1);
+        due("a rule of it", x.best(1), 4);
+        x.drop(26);
+        due("none any more", x.best(1), 4);
+        due("size", x.count(3), 4);
+        due("nor for two", x.best(2), 4);
+        x.undo(1);
+        due("a rule again", x.best(2), 4);
+    }
+
     @Says("THE BEST of k. -3: k (0 to 2).")
     static void promise34_best_noSuchK() {
         for (int k : new int[] {-1, 3, MIN, MAX}) {
