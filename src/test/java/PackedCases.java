@@ -53,6 +53,8 @@ final class PackedCases extends Bench {
         PairPacker x = ofForm(2, 26, 2, 5, 5, 28, 2, 5, 5, 6, 0, 1, 0, 1, 0, 1);
         due("between them", x.step(), 27);
         due("behind them", x.replace(27, 27), 29);
+        x.drop(26);
+        due("one that was dropped", x.replace(29, 27), 26);
     }
 
     @Says({"a new one gets the least number that is free.", "RULES: SIGNS 26 to 85"})
@@ -373,6 +375,17 @@ final class PackedCases extends Bench {
         due("26 goes, then 28 can't", x.trim(), 1);
         due("26", x.rule(26, 0), -2);
         due("28", x.rule(28, 0), 2);
+    }
+
+    @Says("the least such one is DROPPED.")
+    static void promise11_trim_usesZeroDoesNotComeFirst() {
+        // 28 is used once, 29 isn't: were 29 dropped first, 26 would be used once, too, and go
+        PairPacker x = ofForm(4, 26, 7, 0, 0, 0, 0, 0, 0, 0, 28, 7, 1, 1, 1, 1, 1, 1, 1,
+            27, 6, 26, 28, 2, 2, 2, 2, 29, 2, 26, 2, 2, 27, 27);
+        due("28, then 29", x.trim(), 2);
+        due("26 stays", x.rule(26, 0), 7);
+        due("28 is gone", x.rule(28, 0), -2);
+        dueText("where it went", row(x, 27), "26 1 1 1 1 1 1 1 2 2 2 2");
     }
 
     @Says("To TRIM: as long as some RULE has USES 0")
